@@ -632,7 +632,7 @@ public final class DreamShares {
     }
 
     private int worthOf(int pool) {
-        return kitchen.mostPrice(pool) - loss * pools.nightmares[pool];
+        return kitchen.most[pool] - loss * pools.nightmares[pool];
     }
 
     private void foldWorth(int set, int size) {
@@ -905,11 +905,10 @@ public final class DreamShares {
         final int[] price = new int[MOST_RECIPES];
         int number = 0;
         int faultPlace = NONE;
+        /** By pool: the most that its prices are together. */
+        final int[] most = new int[START[MOST_DREAMS + 1]];
         private final Pools pools;
-        private final int[] most = new int[START[MOST_DREAMS + 1]];
         private int state = AT_FIRST;
-        /** Texts are typed byte by byte, and most of what stands in between is never asked for. */
-        private boolean stale = false;
 
         Kitchen(Pools pools) {
             this.pools = pools;
@@ -920,7 +919,7 @@ public final class DreamShares {
         }
 
         void parse(Text text) {
-            stale = true;
+            boolean hadSome = number > 0;
             faultPlace = NONE;
             number = 0;
             state = AT_FIRST;
@@ -931,6 +930,9 @@ public final class DreamShares {
                 faultPlace = text.length;
             }
             number = faultPlace == NONE ? number : 0;
+            if (hadSome || number > 0) {
+                fillMost();
+            }
         }
 
         private boolean goesOn(int b) {
@@ -951,36 +953,30 @@ public final class DreamShares {
             if (state == AT_FIRST) {
                 first[number] = kind;
                 second[number] = NONE;
+                state = AT_SECOND;
             } else {
                 second[number] = kind;
+                state = AT_PRICE;
             }
-            state++;
             return true;
         }
 
         private boolean takePrice(int figure) {
+            if (number >= MOST_RECIPES) {
+                return false;
+            }
             price[number] = figure;
             number++;
             state = AT_END;
             return true;
         }
 
-        int mostPrice(int pool) {
-            if (stale) {
-                fillMost();
-                stale = false;
-            }
-            return most[pool];
-        }
-
+        /** Each best row of recipes begins with the dreams that it leaves over, which bring 0, and adds to these. */
         private void fillMost() {
             for (int pool = 0; pool < most.length; pool++) {
                 most[pool] = 0;
             }
             for (int pool = 0; pool < START[MOST_DREAMS]; pool++) {
-                for (int kind = 0; kind < KINDS; kind++) {
-                    raise(pools.with(pool, kind), most[pool]);
-                }
                 for (int r = 0; r < number; r++) {
                     raise(withRecipe(pool, r), most[pool] + price[r]);
                 }
@@ -995,7 +991,7 @@ public final class DreamShares {
 
         private int withRecipe(int pool, int r) {
             int one = pools.with(pool, first[r]);
-            return second[r] == NONE || one == NONE ? one : pools.with(one, second[r]);
+            return second[r] == NONE ? one : pools.with(one, second[r]);
         }
 
         /** A recipe that can be in a best row at all is taken as often as it can, from recipe 0 on; uses up the dreams. */
@@ -1022,7 +1018,7 @@ public final class DreamShares {
         }
 
         private int mostOf(int[] dreams) {
-            return mostPrice(pools.place(dreams[0], dreams[1], dreams[2], dreams[3]));
+            return most[pools.place(dreams[0], dreams[1], dreams[2], dreams[3])];
         }
 
         private void addRecipe(int[] dreams, int r, int times) {
@@ -1095,7 +1091,7 @@ public final class DreamShares {
 
         /** The dearest loop of all: it reads the table of pools itself, as a call for each kind would cost more. */
         void sumAt(int size) {
-            if (!hasPoolsAbove(size)) {
+            if (size < 0 || size >= MOST_DREAMS) {
                 return;
             }
             int[] next = pools.next;
@@ -1107,7 +1103,7 @@ public final class DreamShares {
         }
 
         void greatestAt(int size) {
-            if (!hasPoolsAbove(size)) {
+            if (size < 0 || size >= MOST_DREAMS) {
                 return;
             }
             for (int pool = START[size]; pool < START[size + 1]; pool++) {
@@ -1117,10 +1113,6 @@ public final class DreamShares {
                 }
                 values[pool] = greatest;
             }
-        }
-
-        private static boolean hasPoolsAbove(int size) {
-            return size >= 0 && size < MOST_DREAMS;
         }
     }
 

@@ -105,6 +105,9 @@ public final class SharesTest {
         Due.same("none goes ahead of like ones", f.best(0), -1);
         DreamShares n = Due.with("0001", "f3;w3");
         Due.same("of like kinds the least", n.best(0), 0);
+        DreamShares close = Due.with("9100", "f2;w1");
+        // 19 of 10 by none, 25 of 13 by f
+        Due.same("a little better is better", close.best(0), 0);
         DreamShares bad = Due.with("1000", "");
         Due.same("a nightmare is never best", bad.best(0), -1);
         DreamShares free = Due.with("1110;1110", "nn9");
