@@ -20,7 +20,19 @@ public final class DigestTest {
         same(x);
         x.lose(0);
         same(x);
+        lossAboutTheNinthNight();
         Due.end();
+    }
+
+    /** The week of the digest has nine nights: a first loss in its last one is told, one in the next is not. */
+    private static void lossAboutTheNinthNight() {
+        DreamShares last = Due.with("1901", "");
+        Due.same("the last night", last.week(7, 9, 1), 8);
+        same(last);
+        DreamShares next = Due.with("0100;1063", "f1;w3");
+        next.set(1, 4);
+        Due.same("the night after", next.week(7, 10, 1), 9);
+        same(next);
     }
 
     private static void add(long v) {

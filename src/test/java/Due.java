@@ -2,14 +2,20 @@
 final class Due {
     static final long BAD_LONG = Long.MIN_VALUE + 2;
     private static int wrong = 0;
+    private static String sentence = "";
 
     private Due() {
+    }
+
+    /** The words of the document that the answers from here on stand for; wrong ones are printed with them. */
+    static void sentence(String words) {
+        sentence = "\"" + words + "\": ";
     }
 
     static void same(String call, long got, long want) {
         if (got != want) {
             wrong++;
-            System.out.println(call + " answered " + got + ", due is " + want);
+            System.out.println(sentence + call + " answered " + got + ", due is " + want);
         }
     }
 
@@ -21,7 +27,7 @@ final class Due {
     static void holds(String what, boolean isSo) {
         if (!isSo) {
             wrong++;
-            System.out.println("not so: " + what);
+            System.out.println(sentence + "not so: " + what);
         }
     }
 

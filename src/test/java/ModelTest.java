@@ -5,7 +5,8 @@ import java.util.Random;
 
 /** Promises 1 to 35: runs of calls by a fixed seed (or "ModelTest runs seed"), answered as the model answers them. */
 public final class ModelTest {
-    private static final int CALLS = 300;
+    /** With what types the texts these stay below the 512 calls that an object is used for. */
+    private static final int CALLS = 240;
     /** Each call with the ranges of its arguments; one in ten falls outside. How often it comes stands first. */
     private static final String[] CALLED = {
         "1 type 0..1 0..255", "3 type 0..1 48..59", "1 wipe 0..1", "2 undo 0..1", "3 fault 0..1", "3 member 0..5 0..3",
@@ -29,7 +30,7 @@ public final class ModelTest {
     private static int run;
 
     public static void main(String[] args) throws ReflectiveOperationException {
-        int runs = args.length > 0 ? Integer.parseInt(args[0]) : 120;
+        int runs = args.length > 0 ? Integer.parseInt(args[0]) : 150;
         RANDOM.setSeed(args.length > 1 ? Long.parseLong(args[1]) : 20261118);
         for (run = 0; run < runs; run++) {
             real = new DreamShares();
