@@ -8,7 +8,8 @@ public final class DreamShares {
     private static final int SHEETS = 4, FORMS = 3, MOST_ITEMS = 48;
     private static final int NULL_FOUND = 1, INDEX_FOUND = 2, CAST_FOUND = 3, STORE_FOUND = 4, SIZE_FOUND = 5;
     private static final int BAD_NUMBER = -10002;
-    private static final long BAD_LONG = Long.MIN_VALUE + 2;
+    private static final int LEAST_INT = 1 << 31;
+    private static final long BAD_LONG = (1L << 63) + 2;
     /** Where the pools of 0, 1 .. 6 dreams begin; the last one is how many pools there are. */
     private static final int[] START = {0, 1, 5, 15, 35, 70, 126, 210};
     private static final long[] FACTORIAL = {1, 1, 2, 6, 24, 120, 720};
@@ -377,12 +378,12 @@ public final class DreamShares {
 
     public int get(int s, int form, int i) {
         if (!isSheet(s) || !isForm(form)) {
-            return Integer.MIN_VALUE;
+            return LEAST_INT;
         }
         int wrong = sheets[s].findingAt(form, i);
         if (wrong != 0) {
             found(wrong);
-            return Integer.MIN_VALUE;
+            return LEAST_INT;
         }
         return sheets[s].items[i];
     }

@@ -1,7 +1,5 @@
 /** Promise 36: digest, by the calls that it is made of. */
 public final class DigestTest {
-    private static long h;
-
     public static void main(String[] args) {
         same(new DreamShares());
         same(Due.with("1234", "f5"));
@@ -35,67 +33,11 @@ public final class DigestTest {
         same(next);
     }
 
-    private static void add(long v) {
-        h = 31 * h + v;
-    }
-
     private static void same(DreamShares x) {
         int findingBefore = x.count(8);
-        Due.same("digest()", x.digest(), byCalls(x));
+        long want = Digest.of(x);
+        Due.same("digest()", x.digest(), want);
         Due.same("digest() changes nothing", x.count(8), findingBefore);
-        Due.same("digest() again", x.digest(), h);
-    }
-
-    private static long byCalls(DreamShares x) {
-        h = 17;
-        for (int what = 0; what < 8; what++) {
-            add(x.count(what));
-        }
-        add(x.fault(0));
-        add(x.fault(1));
-        for (int m = 0; m < x.count(0); m++) {
-            addMember(x, m);
-        }
-        for (int r = 0; r < x.count(1); r++) {
-            add(x.recipe(r, 0));
-            add(x.recipe(r, 1));
-            add(x.recipe(r, 2));
-            add(x.made(2, 2, 1, 1, r));
-        }
-        addRest(x);
-        return h;
-    }
-
-    private static void addMember(DreamShares x, int m) {
-        for (int kind = 0; kind < 4; kind++) {
-            add(x.member(m, kind));
-        }
-        add(x.chance(m, 0, 0));
-        add(x.chance(m, 0, 1));
-        add(x.mean(1 << m, 0));
-        add(x.mean(1 << m, 1));
-        add(x.share(m, 0));
-        add(x.share(m, 1));
-        add(x.best(m));
-        add(x.may(1, 1, 1, 0, m));
-    }
-
-    private static void addRest(DreamShares x) {
-        add(x.worth(2, 2, 1, 1));
-        add(x.worth(0, 0, 0, 6));
-        add(x.mean(63, 0));
-        add(x.mean(63, 1));
-        add(x.leave());
-        add(x.strike(1, 0));
-        add(x.strike(1, 1));
-        add(x.menu(1, 0));
-        add(x.menuMean(2, 0));
-        add(x.menuMean(2, 1));
-        add(x.dread(1, 0));
-        add(x.dread(1, 1));
-        add(x.rows(1, 1, 1, 0));
-        add(x.kept(1, 1, 0, 0));
-        add(x.week(7, 9, 0));
-        add(x.week(7, 9, 1));
+        Due.same("digest() again", x.digest(), want);
     }
 }

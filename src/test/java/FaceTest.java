@@ -20,12 +20,14 @@ public final class FaceTest {
     private static final String[] FORBIDDEN = {"throw", "throws", "try", "catch", "finally", "synchronized", "assert",
         "import", "package", "protected", "new Thread", "System.out", "System.nano", "System.current", "Random", "Exact",
         "hashCode", "toString", "->", "::", "volatile", "transient", "native"};
+    private static final Set<String> LIBRARY = Set.of("Integer.bitCount", "Math.abs", "Math.max", "System.arraycopy");
 
     public static void main(String[] args) throws IOException {
         constants();
         methods();
         nestedClasses();
         words();
+        library();
         lengths();
         Due.end();
     }
@@ -102,6 +104,15 @@ public final class FaceTest {
             Due.holds("no " + word + " in the file", !found.find());
         }
         Due.holds("plain signs alone", source.chars().allMatch(c -> c < 128));
+    }
+
+    /** Rule 4: of the library nothing but what it lists, as far as the class uses it; a constant of Long is not listed. */
+    private static void library() throws IOException {
+        Matcher used = Pattern.compile("\\b(Integer|Long|Math|System|Arrays|String|Character|Short|Byte)\\b(\\.\\w+)?")
+            .matcher(source());
+        while (used.find()) {
+            Due.holds(used.group() + " stands in rule 4", LIBRARY.contains(used.group()));
+        }
     }
 
     /** A method goes from its line, indented by 4 or 8, to the brace with the same indent. */

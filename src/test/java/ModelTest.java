@@ -1,9 +1,7 @@
-import java.lang.reflect.Method;
-import java.util.HashMap;
-import java.util.Map;
+import java.util.Arrays;
 import java.util.Random;
 
-/** Promises 1 to 35: runs of calls by a fixed seed (or "ModelTest runs seed"), answered as the model answers them. */
+/** Promises 1 to 36: runs of calls by a fixed seed (or "ModelTest runs seed"), answered as the model answers them. */
 public final class ModelTest {
     /** With what types the texts these stay below the 512 calls that an object is used for. */
     private static final int CALLS = 240;
@@ -23,13 +21,11 @@ public final class ModelTest {
         Integer.MAX_VALUE - 1, Integer.MAX_VALUE};
 
     private static final Random RANDOM = new Random();
-    private static final Map<String, Method> REAL = methods(DreamShares.class);
-    private static final Map<String, Method> MODEL = methods(Model.class);
     private static DreamShares real;
     private static Model model;
     private static int run;
 
-    public static void main(String[] args) throws ReflectiveOperationException {
+    public static void main(String[] args) {
         int runs = args.length > 0 ? Integer.parseInt(args[0]) : 150;
         RANDOM.setSeed(args.length > 1 ? Long.parseLong(args[1]) : 20261118);
         for (run = 0; run < runs; run++) {
@@ -41,34 +37,23 @@ public final class ModelTest {
                     retype(1, recipes());
                 }
                 String[] chosen = choose();
-                Integer[] arguments = new Integer[chosen.length - 2];
+                int[] arguments = new int[chosen.length - 2];
                 for (int i = 0; i < arguments.length; i++) {
                     arguments[i] = argument(chosen[i + 2]);
                 }
                 same(chosen[1], arguments);
             }
+            Due.same("run " + run + ": digest", real.digest(), Digest.of(model));
         }
         Due.end();
     }
 
-    private static Map<String, Method> methods(Class<?> of) {
-        Map<String, Method> all = new HashMap<>();
-        for (Method method : of.getDeclaredMethods()) {
-            boolean isPrivate = java.lang.reflect.Modifier.isPrivate(method.getModifiers());
-            if (!isPrivate && !method.isSynthetic()) {
-                all.put(method.getName(), method);
-            }
-        }
-        return all;
+    private static void same(String name, int... arguments) {
+        String call = "run " + run + ": " + name + Arrays.toString(arguments);
+        Due.same(call, Calls.ask(real, name, arguments), Calls.ask(model, name, arguments));
     }
 
-    private static void same(String name, Integer... arguments) throws ReflectiveOperationException {
-        Number got = (Number) REAL.get(name).invoke(real, (Object[]) arguments);
-        Number want = (Number) MODEL.get(name).invoke(model, (Object[]) arguments);
-        Due.same("run " + run + ": " + name + java.util.Arrays.toString(arguments), got.longValue(), want.longValue());
-    }
-
-    private static void retype(int text, String bytes) throws ReflectiveOperationException {
+    private static void retype(int text, String bytes) {
         same("wipe", text);
         for (int i = 0; i < bytes.length(); i++) {
             same("type", text, (int) bytes.charAt(i));
